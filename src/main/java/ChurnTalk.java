@@ -553,7 +553,7 @@ public final class ChurnTalk {
     }
 
     private static long commonDivisor(long a, long b) {
-        // Each two steps halve the numbers at least: 100 steps are more than any long needs.
+        // Each two steps halve the numbers at least: 200 are more than any long needs.
         for (int step = 0; step < 200 && b != 0; step++) {
             long rest = a % b;
             a = b;
@@ -570,7 +570,7 @@ public final class ChurnTalk {
         private final int[] friends = new int[MOST_PERSONS];
         private final int[] talesAbout = new int[MOST_PERSONS];
         private final int[] knownAtFirst = new int[MOST_PERSONS];
-        private final int[] persOf = new int[MOST_TALES];
+        private final int[] subjects = new int[MOST_TALES];
         private final int[] ills = new int[MOST_TALES];
         private final int[] minutes = new int[MOST_TALES];
 
@@ -606,7 +606,7 @@ public final class ChurnTalk {
                     || knowers == 0 || (knowers & bit(about)) != 0) {
                 return false;
             }
-            put(persOf, tales, about);
+            put(subjects, tales, about);
             put(ills, tales, ill);
             put(minutes, tales, taken);
             put(talesAbout, about, at(talesAbout, about) | bit(tales));
@@ -648,7 +648,7 @@ public final class ChurnTalk {
         }
 
         private int personOf(int t) {
-            return at(persOf, t);
+            return at(subjects, t);
         }
 
         private int illOf(int t) {

@@ -135,6 +135,9 @@ public final class ComesTest {
         DUE.is("best(61, 0)", row.best(61, 0), BAD);
         DUE.is("best(1, -1)", row.best(1, -1), BAD);
         DUE.is("best(1, 2)", row.best(1, 2), BAD);
+        ChurnTalk lower = Due.laid("p0;p0;p0;f0,1;t2,9,1,0;t2,1,1,1;");
+        DUE.is("the lower one first", lower.best(1, 0), 1);
+        DUE.is("the lower one first: 9", lower.best(1, 1), 9);
         // 1 tells 9 then 0 tells 1: in one minute the other order brings more.
         ChurnTalk two = Due.laid("p0;p0;p0;f0,1;t2,1,1,0;t2,9,1,1;");
         DUE.is("the higher one first", two.best(1, 0), 10);
@@ -168,6 +171,7 @@ public final class ComesTest {
 
     private static void twosOfSeveral() {
         twosAre(Due.laid("p0;p0;p0;f0,1;f0,2;f1,2;"), 1, 0, 1, 0, NONE);
+        twosAre(Due.laid("p3;"), 60, 0, NONE);
         twosAre(Due.laid("p0;p0;p0;p0;f0,3;f1,2;f0,2;f1,3;"), 1, 0, 2, 3, 0, 1);
         twosAre(Due.laid("p3;p3;p3;p3;p3;p3;f0,5;f5,1;f1,4;f4,0;"), 1, 20, 4, 5, NONE, NONE, 0, 1);
         // 12 bring as much as 01 and 23 together: 0 with 1 comes ahead of 0 aside.
@@ -184,6 +188,17 @@ public final class ComesTest {
         DUE.is("1 and 2 both would", Due.laid(ROW).leave(1), 12);
         ChurnTalk alike = Due.laid("p0;p0;p0;p0;f0,1;f1,2;f2,3;t3,6,1,0;t0,6,1,1;t0,6,1,3;");
         DUE.is("just as much is not more", alike.leave(1), NONE);
+        ChurnTalk high = Due.laid("p0;p0;p0;p0;f0,1;f1,2;f2,3;t3,6,1,0;t0,9,1,1;t0,9,1,3;");
+        DUE.is("1 would, 2 has just as much", high.leave(1), NONE);
+        ChurnTalk low = Due.laid("p0;p0;p0;p0;f0,1;f1,2;f2,3;t3,9,1,0;t0,9,1,1;t0,6,1,3;");
+        DUE.is("2 would, 1 has just as much", low.leave(1), NONE);
+        // A row 1-0-2-3 that bring 6, 9, 6.
+        ChurnTalk nought = Due.laid("p0;p0;p0;p0;f0,1;f0,2;f2,3;t3,6,1,1;t1,9,1,0;t0,6,1,3;");
+        twosAre(nought, 1, 12, 1, 0, 3, 2);
+        DUE.is("0 and 2 would", nought.leave(1), 2);
+        nought.hush(0);
+        twosAre(nought, 1, 9, 2, NONE, 0, NONE);
+        DUE.is("3 would, 2 not", nought.leave(1), NONE);
         // One aside has 0: in the row 0-1-2 with 6 and 6, 2 would, 1 not.
         ChurnTalk aside = Due.laid("p0;p0;p0;f0,1;f1,2;t2,6,1,0;t0,6,1,2;");
         DUE.is("one aside", aside.leave(1), NONE);

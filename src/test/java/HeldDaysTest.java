@@ -123,6 +123,9 @@ public final class HeldDaysTest {
         two.pass(1);
         DUE.is("tale 0 being told cannot be hushed", two.day(0, 1, 0), 18);
         DUE.is("nothing is hushed by a day", two.count(5), 0);
+        ChurnTalk one = Due.laid("p0;p0;p0;f0,1;t2,9,2,0;");
+        one.sit(0, 1);
+        DUE.is("the one TALE is hushed", one.day(0, 1, 0), 0);
         ChurnTalk none = Due.laid("p3;p3;f0,1;");
         none.sit(0, 1);
         DUE.is("no TALE to hush", none.day(0, 1, 0), 10);

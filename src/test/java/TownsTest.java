@@ -139,6 +139,12 @@ public final class TownsTest {
         fault(two + "t,1,1,1;", 9);
         fault(two + "t0,,1,1;", 9);
         fault(two + "t0,001,1,1;", 9);
+        fault(two + "t001,1,1;", 9);
+        fault(two + "t0,0101,1;", 9);
+        fault(two + "t0,1,011;", 9);
+        fault(two + "t1,1,1,00;", 9);
+        fault(two + "t1,1,1,3;", 9);
+        fault(two + "p0;t3,1,1,00;", 12);
         fault(two + "t0.1,1,1;", 9);
         fault(two + "t0,1.1,1;", 9);
         fault(two + "t0,1,1.1;", 9);
@@ -207,6 +213,12 @@ public final class TownsTest {
         DUE.is("laid with one more", x.lay(), 3);
         DUE.is("the one more has no friends", x.person(2, 1), 0);
         DUE.is("the one more knows nothing", x.person(2, 2), 0);
+        ChurnTalk again = Due.laid("p0;p0;p0;p0;f0,3;t1,5,1,0;");
+        DUE.is("laid once more", again.lay(), 4);
+        DUE.is("of the first town nothing stays: known by 0", again.person(0, 2), 1);
+        DUE.is("of the first town nothing stays: known by 1", again.person(1, 2), 0);
+        DUE.is("of the first town nothing stays: friends of 0", again.person(0, 1), 0b1000);
+        DUE.is("of the first town nothing stays: told to 3", again.sit(0, 3), 1);
         DUE.is("one alone is laid", Due.laid("p0;").count(0), 1);
     }
 
