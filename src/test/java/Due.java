@@ -4,17 +4,26 @@ final class Due {
     private int asked;
 
     void is(String call, long got, long want) {
+        same(call, String.valueOf(got), String.valueOf(want));
+    }
+
+    void same(String what, String got, String want) {
         asked++;
-        if (got != want) {
+        if (!got.equals(want)) {
             wrong++;
-            System.out.println(call + " answered " + got + ", due is " + want);
+            System.out.println(what + " answered " + got + ", due is " + want);
         }
+    }
+
+    /** Whether something was asked, and all answers were as due. */
+    boolean isMet() {
+        return wrong == 0 && asked > 0;
     }
 
     /** Ends the program: with 1 if an answer was not as due, or if nothing was asked. */
     void end() {
         System.out.println(wrong + " of " + asked + " answers are not as due");
-        System.exit(wrong == 0 && asked > 0 ? 0 : 1);
+        System.exit(isMet() ? 0 : 1);
     }
 
     static ChurnTalk written(String text) {
