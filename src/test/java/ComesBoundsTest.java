@@ -210,12 +210,15 @@ public final class ComesBoundsTest {
         b.asks(17, "FRIENDS who bring nothing: 0", Towns.laid("p0;p0;p0;f1,2;"), x -> x.best(60, 1), 0);
         b.asks(17, "the most: 1200", Towns.laid("p0;p0;p0;f0,1;" + "t2,20,9,0;".repeat(7)), x -> x.best(60, 1), 1200);
         b.asks(17, "the last two alone", Towns.laid("p0;p0;p0;p0;p3;p3;f0,1;f4,5;"), x -> x.best(1, 0), 45);
-        b.asks(17, "the last one first: 54", Towns.laid("p0;p0;p0;p0;p0;p0;f4,5;t0,1,1,4;t0,2,1,5;"), x -> x.best(1, 0), 54);
+        b.asks(17, "the last one first: 54", Towns.laid("p0;p0;p0;p0;p0;p0;f4,5;t0,1,1,4;t0,2,1,5;"),
+                x -> x.best(1, 0), 54);
         b.asks(17, "0 first is told by the other one alone", Towns.laid("p3;p0;p3;f0,2;"), x -> x.best(1, 0), 2);
         // Each of 01, 10, 02, 20, 12, 21 brings 10 a MINUTE.
         String three = "p3;p3;p3;f0,1;f1,2;f0,2;";
-        b.asks(17, "of several the first, by the first one and then the other", Towns.laid(three), x -> x.best(1, 0), 1);
-        b.asks(17, "of several the first, told in another order", Towns.laid("p3;p3;p3;f2,1;f2,0;"), x -> x.best(1, 0), 2);
+        b.asks(17, "of several the first, by the first one and then the other", Towns.laid(three),
+                x -> x.best(1, 0), 1);
+        b.asks(17, "of several the first, told in another order", Towns.laid("p3;p3;p3;f2,1;f2,0;"),
+                x -> x.best(1, 0), 2);
         // 0 can tell 1 ILL by 5, 0 can tell 2 ILL by 5; 12 are silent.
         b.asks(17, "of several with the same first one: the other one", Towns.laid("p0;p0;p0;p0;f0,2;f0,1;t3,5,1,0;"),
                 x -> x.best(1, 0), 1);
@@ -225,7 +228,8 @@ public final class ComesBoundsTest {
                 x -> x.best(1, 0), 10);
         b.asks(17, "of either order that with the lower first", Towns.laid("p0;p0;p0;f0,1;t2,2,1,0;t2,1,1,1;"),
                 x -> x.best(1, 0), 1);
-        b.asks(17, "of either order that with the lower first: how much", Towns.laid("p0;p0;p0;f0,1;t2,2,1,0;t2,1,1,1;"),
+        b.asks(17, "of either order that with the lower first: how much",
+                Towns.laid("p0;p0;p0;f0,1;t2,2,1,0;t2,1,1,1;"),
                 x -> x.best(1, 1), 2);
         b.asks(17, "of either order, alike, the lower first", Towns.laid("p0;p0;p0;f0,1;t2,1,1,0;t2,2,1,1;"),
                 x -> x.best(2, 0), 1);
@@ -252,10 +256,13 @@ public final class ComesBoundsTest {
         b.asks(20, "1: of a FRIEND", Towns.laid(row), x -> x.hears(0, 1), 1);
         b.asks(20, "4, the most: all others on the way", Towns.laid(row), x -> x.hears(0, 4), 4);
         b.asks(20, "NONE: it is of the last one", Towns.laid(row), x -> x.hears(0, 5), NONE);
-        b.asks(20, "the fewest, of two ways", Towns.laid("p0;p0;p0;p0;p0;f0,1;f1,2;f2,3;f3,0;t4,1,1,0;"), x -> x.hears(0, 3), 1);
-        b.asks(20, "the fewest, of two who KNOW it", Towns.laid("p0;p0;p0;p0;f0,1;f1,2;t3,1,1,02;"), x -> x.hears(0, 1), 1);
+        b.asks(20, "the fewest, of two ways", Towns.laid("p0;p0;p0;p0;p0;f0,1;f1,2;f2,3;f3,0;t4,1,1,0;"),
+                x -> x.hears(0, 3), 1);
+        b.asks(20, "the fewest, of two who KNOW it", Towns.laid("p0;p0;p0;p0;f0,1;f1,2;t3,1,1,02;"),
+                x -> x.hears(0, 1), 1);
         b.asks(20, "a WIDOW hears it", Towns.laid("p0;p1;p0;f0,1;t2,1,1,0;"), x -> x.hears(0, 1), 1);
-        b.asks(20, "from the higher to the lower one", Towns.laid("p0;p0;p0;p0;f0,1;f1,2;t3,1,1,2;"), x -> x.hears(0, 0), 2);
+        b.asks(20, "from the higher to the lower one", Towns.laid("p0;p0;p0;p0;f0,1;f1,2;t3,1,1,2;"),
+                x -> x.hears(0, 0), 2);
         b.asks(20, "by what was heard, ahead of this sitting", Towns::stood, x -> x.hears(1, 4), 1);
         b.asks(20, "nothing is TOLD yet, though it was, this sitting", () -> {
             ChurnTalk x = Towns.stood();
@@ -282,7 +289,8 @@ public final class ComesBoundsTest {
         b.asks(20, "NONE: a WIDOW alone KNOWS it", Towns.laid("p1;p0;p0;f0,1;t2,1,1,0;"), x -> x.hears(0, 1), NONE);
         b.asks(20, "NONE: a WIDOW on the way", Towns.laid("p0;p1;p0;p0;f0,1;f1,2;t3,1,1,0;"), x -> x.hears(0, 2), NONE);
         b.asks(20, "NONE: who it is of", Towns.laid("p0;p0;f0,1;t1,1,1,0;"), x -> x.hears(0, 1), NONE);
-        b.asks(20, "NONE: who it is of is on the way", Towns.laid("p0;p0;p0;f0,1;f1,2;t1,1,1,0;"), x -> x.hears(0, 2), NONE);
+        b.asks(20, "NONE: who it is of is on the way", Towns.laid("p0;p0;p0;f0,1;f1,2;t1,1,1,0;"),
+                x -> x.hears(0, 2), NONE);
         b.asks(20, "NONE: FRIENDS, but of others alone", Towns.laid("p0;p0;p0;p0;p0;f0,1;f2,3;t4,1,1,0;"),
                 x -> x.hears(0, 3), NONE);
     }

@@ -42,11 +42,15 @@ public final class HeldDayBoundsTest {
         b.beyond(24, "held(a, 1, ..) of five", Towns::lively, (x, a) -> x.held(a, 1, 1, 1, 3, 0), 0, 4);
         b.beyond(24, "held(1, b, ..) of five", Towns::lively, (x, a) -> x.held(1, a, 1, 1, 3, 0), 0, 4);
         b.ends(24, "held(2, 3, n, 600, 0, 0)", five, (x, n) -> x.held(2, 3, n, 600, 0, 0), 1, 0, 60, 1);
-        b.ends(24, "held(0, 1, n, 5, 3, 0), two sitting", Towns::lively, (x, n) -> x.held(0, 1, n, 5, 3, 0), 1, 7, 60, 91);
-        b.ends(24, "held(0, 1, 54, h, 1, 1)", Towns.laid(BUTTER_999), (x, h) -> x.held(0, 1, 54, h, 1, 1), 0, 1, 999, 1000000);
-        b.ends(24, "held(0, 1, 54, h, 1, 0)", Towns.laid(BUTTER_999), (x, h) -> x.held(0, 1, 54, h, 1, 0), 0, 1, 999, 531441);
+        b.ends(24, "held(0, 1, n, 5, 3, 0), two sitting", Towns::lively, (x, n) -> x.held(0, 1, n, 5, 3, 0), 1,
+                7, 60, 91);
+        b.ends(24, "held(0, 1, 54, h, 1, 1)", Towns.laid(BUTTER_999), (x, h) -> x.held(0, 1, 54, h, 1, 1), 0, 1,
+                999, 1000000);
+        b.ends(24, "held(0, 1, 54, h, 1, 0)", Towns.laid(BUTTER_999), (x, h) -> x.held(0, 1, 54, h, 1, 0), 0, 1,
+                999, 531441);
         b.ends(24, "held(0, 1, 60, 19, x, 0)", five, (x, tenths) -> x.held(0, 1, 60, 19, tenths, 0), 0, 1, 10, 0);
-        b.ends(24, "held(0, 1, 60, 0, x, 0), two sitting", Towns::lively, (x, tenths) -> x.held(0, 1, 60, 0, tenths, 0), 0, 1, 10, 1);
+        b.ends(24, "held(0, 1, 60, 0, x, 0), two sitting", Towns::lively,
+                (x, tenths) -> x.held(0, 1, 60, 0, tenths, 0), 0, 1, 10, 1);
         b.ends(24, "held(0, 1, 60, 19, 3, part)", five, (x, part) -> x.held(0, 1, 60, 19, 3, part), 0, 49, 1, 100);
     }
 
@@ -85,8 +89,10 @@ public final class HeldDayBoundsTest {
         heldIs("nine of ten", TWO_TALES, 60, 18, 1, 9, 10);
         heldIs("nine TALES, all told", Towns.NINE, 60, 60, 0, 1, 1);
         heldIs("nine TALES, seven or more told", Towns.NINE, 60, 60, 5, 23, 256);
-        heldIs("nine TALES, none held back by 9 of ten", "p0;p0;p0;f0,1;" + "t2,1,1,0;".repeat(9), 9, 9, 9, 1, 1000000000);
-        heldIs("nine TALES, not all held back by 1 of ten", "p0;p0;p0;f0,1;" + "t2,1,1,0;".repeat(9), 9, 1, 1, 999999999, 1000000000);
+        heldIs("nine TALES, none held back by 9 of ten", "p0;p0;p0;f0,1;" + "t2,1,1,0;".repeat(9), 9, 9, 9, 1,
+                1000000000);
+        heldIs("nine TALES, not all held back by 1 of ten", "p0;p0;p0;f0,1;" + "t2,1,1,0;".repeat(9), 9, 1, 1,
+                999999999, 1000000000);
         heldIs("silence of two YOUNG ones, all held back", "p3;p3;p0;f0,1;t2,1,1,0;", 1, 10, 10, 1, 1);
         heldIs("no TALES: 0", TWO_YOUNG, 60, 601, 5, 0, 1);
         heldIs("no TALES: 1", TWO_YOUNG, 60, 600, 5, 1, 1);
@@ -179,7 +185,8 @@ public final class HeldDayBoundsTest {
         b.asks(25, "no FRIENDS cannot", Towns.laid("p3;p3;"), x -> x.day(9999, 60, 0), 0);
         b.asks(25, "FRIENDS can", Towns.laid(TWO_YOUNG), x -> x.day(9999, 1, 0), 10);
         // z = 0, k = 1, of three: 5185 modulo 3 is 1, 648 modulo 3 is 0.
-        b.asks(25, "by 8 the first one, who is to tell", Towns.laid("p0;p0;p0;f0,1;t2,9,1,0;t2,4,1,1;"), x -> x.day(0, 2, 0), 4);
+        b.asks(25, "by 8 the first one, who is to tell", Towns.laid("p0;p0;p0;f0,1;t2,9,1,0;t2,4,1,1;"),
+                x -> x.day(0, 2, 0), 4);
         // z = 5, k = 0: 56728 (0; 7091, 886): they sit down, and are not asked to stand up at once.
         b.asks(25, "who sits down does not stand up in this MINUTE", Towns.laid(TWO_YOUNG), x -> x.day(5, 1, 0), 10);
         // k = 1: 1 and 0 sit, k = 1, 2: tale 1 (5, 5), k = 3: tale 0 (9).
@@ -188,7 +195,8 @@ public final class HeldDayBoundsTest {
 
     private static void dayStanding() {
         Bounds b = BOUNDS;
-        b.asks(25, "DRAW modulo 8 is 0: they stand up ahead of the MINUTE", () -> sat(TWO_YOUNG), x -> x.day(5, 1, 0), 0);
+        b.asks(25, "DRAW modulo 8 is 0: they stand up ahead of the MINUTE", () -> sat(TWO_YOUNG),
+                x -> x.day(5, 1, 0), 0);
         b.asks(25, "DRAW modulo 8 is 0, a TALE being told: it was not TOLD", () -> {
             ChurnTalk x = sat(TWO_TALES);
             x.pass(1);
@@ -218,8 +226,10 @@ public final class HeldDayBoundsTest {
     // z = 8, k = 0: 48233 (1; 6029, of nine: 8).
     private static void dayHushing() {
         Bounds b = BOUNDS;
-        b.asks(25, "DRAW modulo 8 is 1: a TALE is HUSHED ahead of the MINUTE", () -> sat(TWO_TALES), x -> x.day(0, 1, 0), 5);
-        b.asks(25, "DRAW modulo 8 is 1: modulo as many TALES as there are", () -> sat(TWO_TALES), x -> x.day(7, 1, 0), 5);
+        b.asks(25, "DRAW modulo 8 is 1: a TALE is HUSHED ahead of the MINUTE", () -> sat(TWO_TALES),
+                x -> x.day(0, 1, 0), 5);
+        b.asks(25, "DRAW modulo 8 is 1: modulo as many TALES as there are", () -> sat(TWO_TALES),
+                x -> x.day(7, 1, 0), 5);
         b.asks(25, "DRAW modulo 8 is 1: tale 1 of nine", () -> satWithLeft(1, 2), x -> x.day(7, 1, 0), 3);
         b.asks(25, "DRAW modulo 8 is 1: tale 8 of nine, the last", () -> satWithLeft(8, 9), x -> x.day(8, 1, 0), 0);
         b.asks(25, "DRAW modulo 8 is 1: tale 0 of nine, the first", () -> satWithLeft(0, 1), x -> x.day(0, 1, 0), 2);
@@ -236,7 +246,8 @@ public final class HeldDayBoundsTest {
             return x;
         }, x -> x.day(69, 3, 0), 27);
         b.asks(25, "it is HUSHED: all goes on", Towns::hushedAndSat, x -> x.day(0, 1, 0), 5);
-        b.asks(25, "the one TALE is HUSHED: nobody hears it", () -> sat("p0;p0;p0;f0,1;t2,9,1,0;"), x -> x.day(0, 1, 1), 1);
+        b.asks(25, "the one TALE is HUSHED: nobody hears it", () -> sat("p0;p0;p0;f0,1;t2,9,1,0;"),
+                x -> x.day(0, 1, 1), 1);
         b.asks(25, "a HUSHED TALE is KNOWN, and counts", () -> sat("p0;p0;p0;f0,1;t2,9,1,01;"), x -> x.day(0, 1, 1), 2);
     }
 
@@ -426,7 +437,8 @@ public final class HeldDayBoundsTest {
         b.asks(28, "the most: six PERSONS", Towns.laid(six), x -> x.count(0), 6);
         b.asks(28, "the most: nine TALES", Towns.laid(Towns.NINE), x -> x.count(1), 9);
         b.asks(28, "the most: 15 pairs of FRIENDS", Towns.laid(six + pairs), x -> x.count(2), 15);
-        b.asks(28, "pairs told once more, in either order, are one", Towns.laid("p0;p0;f0,1;f1,0;f0,1;"), x -> x.count(2), 1);
+        b.asks(28, "pairs told once more, in either order, are one", Towns.laid("p0;p0;f0,1;f1,0;f0,1;"),
+                x -> x.count(2), 1);
         b.asks(28, "the most: nine HUSHED", () -> {
             ChurnTalk x = Due.laid(Towns.NINE);
             for (int t = 0; t < 9; t++) {
@@ -434,7 +446,8 @@ public final class HeldDayBoundsTest {
             }
             return x;
         }, x -> x.count(5), 9);
-        b.asks(28, "the most: nine TALES, each KNOWN by five", Towns.laid(six + "t0,1,1,12345;".repeat(9)), x -> x.count(6), 45);
+        b.asks(28, "the most: nine TALES, each KNOWN by five", Towns.laid(six + "t0,1,1,12345;".repeat(9)),
+                x -> x.count(6), 45);
         b.asks(28, "the most: eight can be UNDONE", () -> {
             ChurnTalk x = Due.laid(TWO_YOUNG);
             for (int k = 0; k < 9; k++) {

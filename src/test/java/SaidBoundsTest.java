@@ -63,8 +63,10 @@ public final class SaidBoundsTest {
         saidIs("one more than one of them: none", NINE_OF_20, 0, 1, 21, 0, NONE);
         saidIs("all of two", "p0;p0;p0;t2,1,1,0;t2,2,1,0;", 0, 1, 3, 1, 0b11);
         saidIs("one more than all of two", "p0;p0;p0;t2,1,1,0;t2,2,1,0;", 0, 1, 4, 0, NONE);
-        saidIs("the lowest as bits: 01 and 2 are below 3", "p0;p0;p0;t2,1,1,0;t2,2,1,0;t2,3,9,0;t2,3,1,0;", 0, 1, 3, 3, 0b0011);
-        saidIs("the lowest as bits: 2 is below 3 and 0", "p0;p0;p0;t2,1,1,0;t2,5,1,0;t2,4,1,0;t2,3,1,0;", 0, 1, 4, 2, 0b0100);
+        saidIs("the lowest as bits: 01 and 2 are below 3", "p0;p0;p0;t2,1,1,0;t2,2,1,0;t2,3,9,0;t2,3,1,0;", 0,
+                1, 3, 3, 0b0011);
+        saidIs("the lowest as bits: 2 is below 3 and 0", "p0;p0;p0;t2,1,1,0;t2,5,1,0;t2,4,1,0;t2,3,1,0;", 0, 1,
+                4, 2, 0b0100);
     }
 
     private static void saidTales() {

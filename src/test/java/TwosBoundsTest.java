@@ -47,10 +47,12 @@ public final class TwosBoundsTest {
         twosAre("no FRIENDS, all aside", STRANGERS, 60, 0, NONE, NONE, NONE);
         twosAre("FRIENDS who bring nothing are not aside", "p0;p0;f0,1;", 60, 0, 1, 0);
         twosAre("one is aside of three", "p3;p3;p3;f0,1;f1,2;f0,2;", 1, 10, 1, 0, NONE);
-        twosAre("three pairs of six, the most: 600 each", "p3;p3;p3;p3;p3;p3;f0,3;f1,4;f2,5;", 60, 1800, 3, 4, 5, 0, 1, 2);
+        twosAre("three pairs of six, the most: 600 each", "p3;p3;p3;p3;p3;p3;f0,3;f1,4;f2,5;", 60, 1800, 3, 4,
+                5, 0, 1, 2);
         twosAre("all FRIENDS, all alike", "p3;p3;p3;p3;p3;p3;f0,1;f0,2;f0,3;f0,4;f0,5;f1,2;f1,3;f1,4;f1,5;"
                 + "f2,3;f2,4;f2,5;f3,4;f3,5;f4,5;", 1, 30, 1, 0, 3, 2, 5, 4);
-        twosAre("the first and the last alone are FRIENDS", Towns.SIX.replace("f4,5;", ""), 60, 15, 5, NONE, NONE, NONE, NONE, 0);
+        twosAre("the first and the last alone are FRIENDS", Towns.SIX.replace("f4,5;", ""), 60, 15, 5, NONE,
+                NONE, NONE, NONE, 0);
         twosAre("a star: one alone can sit with its middle", "p3;p3;p3;p3;p3;p3;f5,4;f5,3;f5,2;f5,1;f5,0;", 1, 10,
                 5, NONE, NONE, NONE, NONE, 0);
     }
@@ -59,7 +61,8 @@ public final class TwosBoundsTest {
         twosAre("the lowest sits with the lowest", "p3;p3;p3;p3;f0,3;f1,2;f0,2;f1,3;", 1, 20, 2, 3, 0, 1);
         twosAre("then the next lowest does", "p0;p3;p3;p3;f1,3;f1,2;", 1, 10, NONE, 2, 1, NONE);
         twosAre("aside is behind all", "p3;p3;p3;f0,2;f1,2;", 1, 10, 2, NONE, 0);
-        twosAre("aside is behind all, for the next one, too", "p3;p3;p3;p3;p3;f0,1;f2,4;f3,4;", 1, 20, 1, 0, 4, NONE, 2);
+        twosAre("aside is behind all, for the next one, too", "p3;p3;p3;p3;p3;f0,1;f2,4;f3,4;", 1, 20, 1, 0, 4,
+                NONE, 2);
         twosAre("more in sum is ahead of the lowest one with the lowest", "p3;p3;p0;p0;p3;p3;f0,4;f0,5;f1,4;", 1, 20,
                 5, 4, NONE, NONE, 1, 0);
         // The row 0-1-2-3: 12 alone bring as much as 01 and 23.
@@ -76,7 +79,8 @@ public final class TwosBoundsTest {
         Bounds b = BOUNDS;
         twosAre("the lower one is to tell", "p0;p0;p0;f0,1;t2,1,1,0;t2,9,1,1;", 1, 1, 1, 0, NONE);
         // 1 hears tale 0 of 0, but 1 and 2 sit as alone: 1 does not know it then.
-        twosAre("each two as alone, by what is KNOWN now", "p0;p0;p0;p0;p0;f0,1;f2,3;t4,5,1,02;", 60, 10, 1, 0, 3, 2, NONE);
+        twosAre("each two as alone, by what is KNOWN now", "p0;p0;p0;p0;p0;f0,1;f2,3;t4,5,1,02;", 60, 10, 1, 0,
+                3, 2, NONE);
         b.asks(18, "whoever SITS", Towns::lively, x -> x.twos(60, 2), 3);
         b.asks(18, "what is HUSHED brings nothing", Towns::lively, x -> x.twos(60, 0), 1);
         // 0 has heard tale 1 by now and tells 4 both: 5, 5, 7, 7, 7 are 31, more than 19 with 1.
@@ -110,7 +114,8 @@ public final class TwosBoundsTest {
         leaveIs("the other one would have just as much", row(6, 9, 9), NONE);
         leaveIs("the lower one would have less", row(9, 8, 6), NONE);
         leaveIs("the other one would have less", row(6, 8, 9), NONE);
-        leaveIs("one aside has 0, and would leave; the other one would not", "p0;p0;p0;f0,1;f1,2;t2,6,1,0;t0,6,1,2;", NONE);
+        leaveIs("one aside has 0, and would leave; the other one would not",
+                "p0;p0;p0;f0,1;f1,2;t2,6,1,0;t0,6,1,2;", NONE);
         leaveIs("two aside who bring 0 have no more than 0", "p0;p0;p0;p0;", NONE);
         leaveIs("two who would leave are no FRIENDS", "p0;p0;p0;p0;f0,1;f2,3;t3,6,1,0;t0,9,1,1;t0,6,1,3;", NONE);
         // Were 2 to tell, 12 would bring 9; 1 is to tell, and brings 5.
@@ -162,7 +167,8 @@ public final class TwosBoundsTest {
 
     private static void costNone() {
         Bounds b = BOUNDS;
-        b.ends(21, "cost(1, what), all HUSHED", hushed(Towns.ROW, 0, 1, 2), (x, what) -> x.cost(1, what), 0, NONE, 1, NONE);
+        b.ends(21, "cost(1, what), all HUSHED", hushed(Towns.ROW, 0, 1, 2), (x, what) -> x.cost(1, what), 0,
+                NONE, 1, NONE);
         b.asks(21, "one alone not HUSHED, the last: which", hushed(Towns.ROW, 0, 1), x -> x.cost(1, 0), 2);
         b.asks(21, "one alone not HUSHED, the last: how much", hushed(Towns.ROW, 0, 1), x -> x.cost(1, 1), 0);
         b.asks(21, "no FRIENDS: the lowest", Towns.laid(STRANGERS), x -> x.cost(1, 0), 0);
@@ -182,7 +188,8 @@ public final class TwosBoundsTest {
         b.asks(21, "of several the lowest", nine, x -> x.cost(1, 0), 0);
         b.asks(21, "of several the lowest that is not HUSHED", hushed(Towns.NINE, 0, 1), x -> x.cost(9, 0), 2);
         b.asks(21, "more by 1 is enough", Towns.laid("p0;p0;p0;f0,1;t2,6,1,0;t2,5,1,0;"), x -> x.cost(60, 0), 1);
-        b.asks(21, "less is still brought: 0 of one TALE", Towns.laid("p0;p0;p0;f0,1;t2,6,1,0;"), x -> x.cost(60, 1), 0);
+        b.asks(21, "less is still brought: 0 of one TALE", Towns.laid("p0;p0;p0;f0,1;t2,6,1,0;"),
+                x -> x.cost(60, 1), 0);
         // Without the slow tale 0 there are MINUTES for tale 1.
         Bounds.Way slow = Towns.laid("p0;p0;p0;f0,1;t2,1,9,0;t2,20,9,0;");
         b.asks(21, "more comes without it: which", slow, x -> x.cost(9, 0), 0);
@@ -193,6 +200,7 @@ public final class TwosBoundsTest {
             x.pass(1);
             return x;
         }, x -> x.cost(9, 0), 0);
-        b.asks(21, "no FRIENDS who KNOW it: it costs nothing", Towns.laid("p3;p3;p0;f0,1;t1,9,9,2;"), x -> x.cost(60, 1), 600);
+        b.asks(21, "no FRIENDS who KNOW it: it costs nothing", Towns.laid("p3;p3;p0;f0,1;t1,9,9,2;"),
+                x -> x.cost(60, 1), 600);
     }
 }
