@@ -15,6 +15,14 @@ final class Towns {
     static final String FIVE = "p0;p2;p3;p3;p1;f0,1;f2,3;f1,2;f0,4;t2,5,2,01;t3,7,3,1;t0,20,9,14;";
 
     /**
+     * The town that README.md uses: 0 PLAIN, 1 PARSON, 2 and 3 YOUNG. By hand, minute by minute:
+     * 01 and 10: 0 tells tale 0 (5, 5), 1 has none, as tale 1 is of 0: 10.
+     * 12 and 21: 1 tells tale 1 by half of 9, cut (4), 2 has none: 4.
+     * 23 and 32: silence of two YOUNG ones, 10 a minute.
+     */
+    static final String LITTLE = "p0;p2;p3;p3;f0,1;f1,2;f2,3;t3,5,2,0;t0,9,1,1;";
+
+    /**
      * Six persons, nine tales. 05 and 50: 0 tells tale 0 (1) and then tales 1 to 7 (2 each), one a
      * minute, 5 has none: 15. 45 and 54: 4 knows tale 8 alone, which is of 5: 0.
      */
