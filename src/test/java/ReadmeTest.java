@@ -88,8 +88,9 @@ public final class ReadmeTest {
     private static void run(String program) throws Exception {
         Path out = Files.createTempDirectory("readme");
         Path file = Files.writeString(out.resolve("ReadmeRun.java"), program);
-        int failed = new ProcessBuilder("javac", "-Xlint:all", "-Werror", "-cp",
-                System.getProperty("java.class.path"), "-d", out.toString(), file.toString()).inheritIO().start().waitFor();
+        ProcessBuilder javac = new ProcessBuilder("javac", "-Xlint:all", "-Werror", "-cp",
+                System.getProperty("java.class.path"), "-d", out.toString(), file.toString());
+        int failed = javac.inheritIO().start().waitFor();
         DUE.is("what README.md shows compiles", failed, 0);
         if (failed == 0) {
             ObjIntConsumer<String> seen = ReadmeTest::compare;

@@ -209,6 +209,8 @@ final class SaysActs {
             due.is("the BUTTER stays", x.count(4), 14);
             due.is("nobody goes on with it", x.pass(60), 14);
             x.sit(0, 1);
+            due.is("no TALE is told yet", x.churn(3), NONE);
+            due.is("so it takes no MINUTES", x.churn(4), 0);
             due.is("it begins anew", x.pass(3), 35);
             due.is("and was TOLD", x.stand(), 1);
         });

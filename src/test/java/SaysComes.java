@@ -42,7 +42,8 @@ final class SaysComes {
             due.is("they stay seated, however long", sat("p3;p3;f0,1;").comes(999), 100);
             due.is("nobody sits down", Due.laid("p3;p3;f0,1;").comes(1), NONE);
         });
-        d.says(14, "COMES for h (0 to 999): behind how many MINUTES (0 to 120) there is BUTTER of h or more first;", due -> {
+        d.says(14, "COMES for h (0 to 999): behind how many MINUTES (0 to 120) there is BUTTER of h or more"
+                + " first;", due -> {
             ChurnTalk x = sat("p3;p3;p0;f0,1;" + "t2,1,9,0;".repeat(9));
             // 1 a MINUTE for 81 MINUTES, 10 a MINUTE then: 471 behind 120.
             int[][] rows = {{0, 0}, {1, 1}, {81, 81}, {82, 82}, {91, 82}, {92, 83}, {471, 120}, {472, NONE},
@@ -203,7 +204,8 @@ final class SaysComes {
 
     private static void leave(Document d) {
         d.says(19, "LEAVE in n: of two FRIENDS who do not SIT together by TWOS, of whom both would have more"
-                + " by what they BRING (the lower one being to tell) than by what those BRING with whom they SIT", due -> {
+                + " by what they BRING (the lower one being to tell) than by what those BRING with whom"
+                + " they SIT", due -> {
             leaveIs(due, row(6, 9, 6), 12);
             leaveIs(due, row(8, 9, 8), 12);
             leaveIs(due, row(9, 9, 6), NONE);
@@ -282,7 +284,8 @@ final class SaysComes {
     }
 
     private static void cost(Document d) {
-        d.says(21, "COST in n: the TALE that is not HUSHED, of which, were it HUSHED, BEST would still BRING most,", due -> {
+        d.says(21, "COST in n: the TALE that is not HUSHED, of which, were it HUSHED, BEST would still"
+                + " BRING most,", due -> {
             // 12 bring 9 by tale 0, 01 bring 6 by tale 1, 23 bring 5 by tale 2.
             ChurnTalk x = Due.laid("p0;p0;p0;p0;f0,1;f1,2;f2,3;t0,9,1,1;t3,6,1,0;t0,5,1,3;");
             due.is("without tale 1 or 2 still 9", x.cost(1, 0), 1);

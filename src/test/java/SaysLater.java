@@ -115,7 +115,8 @@ final class SaysLater {
     }
 
     private static void held(Document d) {
-        d.says(24, "HELD: each TALE that is not HUSHED is held back by x (0 to 10) of ten, for itself (as if HUSHED):", due -> {
+        d.says(24, "HELD: each TALE that is not HUSHED is held back by x (0 to 10) of ten, for itself (as"
+                + " if HUSHED):", due -> {
             ChurnTalk x = Due.laid(TWO_TALES);
             heldIs(due, x, 60, 28, 3, 49, 100);
             heldIs(due, x, 60, 1, 3, 91, 100);
@@ -140,6 +141,8 @@ final class SaysLater {
             heldIs(due, x, 2, 10, 2, 16, 25);
             heldIs(due, x, 60, 11, 2, 0, 1);
             heldIs(due, x, 60, 999, 0, 0, 1);
+            heldIs(due, Due.laid(TWO_YOUNG), 60, 600, 5, 1, 1);
+            heldIs(due, Due.laid(TWO_YOUNG), 60, 601, 5, 0, 1);
             heldIs(due, x, 60, -1, 2, BAD, BAD);
             heldIs(due, x, 60, 1000, 2, BAD, BAD);
             heldIs(due, x, 0, 1, 2, BAD, BAD);
@@ -152,6 +155,7 @@ final class SaysLater {
             heldIs(due, x, 60, 1, 5, 3, 4);
             heldIs(due, x, 60, 18, 8, 1, 5);
             heldIs(due, x, 60, 28, 4, 9, 25);
+            heldIs(due, x, 60, 28, 9, 1, 100);
             heldIs(due, x, 60, 29, 5, 0, 1);
             heldIs(due, x, 60, 0, 5, 1, 1);
         });
@@ -221,6 +225,7 @@ final class SaysLater {
             due.is("tale 7372 modulo 2", sat(TWO_TALES).day(7, 1, 0), 5);
             due.is("tale 6029 modulo 2", sat("p0;p0;p0;f0,1;t2,9,1,1;t2,5,1,0;").day(8, 1, 0), 9);
             due.is("tale 7372 modulo 3", sat("p0;p0;p0;f0,1;t2,9,1,1;t2,5,1,0;t2,7,1,0;").day(7, 1, 0), 7);
+            due.is("tale 0 modulo 1", sat("p0;p0;p0;f0,1;t2,9,2,0;").day(0, 1, 0), 0);
             due.is("no TALE", sat(TWO_YOUNG).day(0, 1, 0), 10);
         });
         d.says(25, "if it can be;", due -> {

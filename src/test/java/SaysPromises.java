@@ -92,6 +92,13 @@ final class SaysPromises {
             x.write('x');
             due.is("a FAULT", x.lay(), NO);
             due.same("as laid for the first time", Trace.ofNow(x), Trace.ofNow(Due.laid(Towns.FIVE)));
+            ChurnTalk y = new ChurnTalk();
+            for (int q : new int[] {1, 0, 2}) {
+                Due.rewrite(y, "p0;p0;p0;f0,1;t" + q + ",9,1," + (q + 1) % 3 + ";");
+                due.is("another town", y.lay(), 3);
+                due.is("only its own TALE is of " + q, y.sit(0, 1), q == 2 ? 0b1 : 0);
+                y.stand();
+            }
         });
     }
 
@@ -104,7 +111,8 @@ final class SaysPromises {
             due.is("it KNOWS the HUSHED one", x.tale(2, 3), 1);
             bad(due, x, (y, p) -> y.person(p, 0), -1, 5);
         });
-        d.says(7, "## Promise 7: tale `int tale(int t, int what)`: Of a TALE: Q (what = 0), I (1), M (2), 1 if HUSHED (3),"
+        d.says(7, "## Promise 7: tale `int tale(int t, int what)`: Of a TALE: Q (what = 0), I (1), M (2), 1"
+                + " if HUSHED (3),"
                 + " who KNOWS it (4; bits). BAD.", due -> {
             ChurnTalk x = Towns.lively();
             answers(due, x, (y, what) -> y.tale(2, what), 0, 20, 9, 1, 0b10010);
@@ -113,7 +121,8 @@ final class SaysPromises {
         });
         d.says(8, "## Promise 8: churn `int churn(int what)`: Who SITS: the first one (what = 0), the other (1),"
                 + " who is to tell, or tells (2), the TALE that is being told (3), MINUTES that it still takes"
-                + " (4; none is told: 0), TALES that were TOLD (5; bits). NONE: nobody SITS, of (3) no TALE; BAD.", due -> {
+                + " (4; none is told: 0), TALES that were TOLD (5; bits). NONE: nobody SITS, of (3) no"
+                + " TALE; BAD.", due -> {
             ChurnTalk x = Due.laid(Towns.FIVE);
             answers(due, x, (y, what) -> y.churn(what), NONE, NONE, NONE, NONE, NONE, NONE);
             x.sit(1, 0);
@@ -142,7 +151,8 @@ final class SaysPromises {
             due.is("somebody SITS", x.sit(0, 4), NO);
             due.is("the first one", x.churn(0), 1);
         });
-        d.says(10, "## Promise 10: stand `int stand()`: They STAND UP: how many TALES were TOLD. NO: nobody SITS.", due -> {
+        d.says(10, "## Promise 10: stand `int stand()`: They STAND UP: how many TALES were TOLD. NO: nobody"
+                + " SITS.", due -> {
             ChurnTalk x = Due.laid(Towns.FIVE);
             due.is("nobody SITS", x.stand(), NO);
             int[] told = {0, 0, 1, 1, 1, 2, 2};
@@ -155,7 +165,8 @@ final class SaysPromises {
                 x.lay();
             }
         });
-        d.says(11, "## Promise 11: pass `int pass(int n)`: n MINUTES (1 to 60) go by: how much BUTTER there is. BAD.", due -> {
+        d.says(11, "## Promise 11: pass `int pass(int n)`: n MINUTES (1 to 60) go by: how much BUTTER there"
+                + " is. BAD.", due -> {
             ChurnTalk x = Due.laid(Towns.FIVE);
             x.sit(0, 1);
             due.is("one", x.pass(1), 5);
@@ -215,7 +226,8 @@ final class SaysPromises {
             bad(due, x, (y, p) -> y.brings(1, p, 60), -1, 5, 1);
             bad(due, x, (y, n) -> y.brings(0, 1, n), 0, 61, -1);
         });
-        d.says(17, "## Promise 17: best `int best(int n, int what)`: BEST: who (what = 0), how much (1). NONE; BAD.", due -> {
+        d.says(17, "## Promise 17: best `int best(int n, int what)`: BEST: who (what = 0), how much (1)."
+                + " NONE; BAD.", due -> {
             ChurnTalk x = Due.laid(Towns.FIVE);
             answers(due, x, (y, what) -> y.best(60, what), 23, 600);
             bad(due, x, (y, n) -> y.best(n, 0), 0, 61);
@@ -251,7 +263,8 @@ final class SaysPromises {
             bad(due, x, (y, t) -> y.hears(t, 0), -1, 3);
             bad(due, x, (y, p) -> y.hears(0, p), -1, 5);
         });
-        d.says(21, "## Promise 21: cost `int cost(int n, int what)`: COST: which (what = 0), how much (1). NONE; BAD.", due -> {
+        d.says(21, "## Promise 21: cost `int cost(int n, int what)`: COST: which (what = 0), how much (1)."
+                + " NONE; BAD.", due -> {
             ChurnTalk x = Due.laid(Towns.ROW);
             answers(due, x, (y, what) -> y.cost(60, what), 0, 9);
             bad(due, x, (y, n) -> y.cost(n, 0), 0, 61);
@@ -270,7 +283,8 @@ final class SaysPromises {
             bad(due, x, (y, p) -> y.said(1, p, 0, 0), -1, 5, 1);
             bad(due, x, (y, sum) -> y.said(1, 0, sum, 0), -1, 181);
         });
-        d.says(23, "## Promise 23: who `int who(int n, int y, int what)`: WHO: how many (what = 0), the first (1; NONE)."
+        d.says(23, "## Promise 23: who `int who(int n, int y, int what)`: WHO: how many (what = 0), the"
+                + " first (1; NONE)."
                 + " BAD.", due -> {
             ChurnTalk x = Due.laid(Towns.FIVE);
             answers(due, x, (y, what) -> y.who(60, 99, what), 2, 12);
@@ -282,7 +296,8 @@ final class SaysPromises {
     }
 
     private static void later(Document d) {
-        d.says(24, "## Promise 24: held `int held(int a, int b, int n, int h, int x, int part)`: HELD: above (part = 0),"
+        d.says(24, "## Promise 24: held `int held(int a, int b, int n, int h, int x, int part)`: HELD:"
+                + " above (part = 0),"
                 + " below (1). BAD (alike, too); NO: no FRIENDS.", due -> {
             ChurnTalk x = Due.laid(Towns.FIVE);
             answers(due, x, (y, part) -> y.held(0, 1, 60, 19, 3, part), 49, 100);
@@ -293,7 +308,8 @@ final class SaysPromises {
             bad(due, x, (y, h) -> y.held(0, 1, 60, h, 3, 0), -1, 1000);
             bad(due, x, (y, tenths) -> y.held(0, 1, 60, 19, tenths, 0), -1, 11);
         });
-        d.says(25, "## Promise 25: day `int day(int z, int n, int what)`: A DAY: BUTTER (what = 0), TALES (1). BAD.", due -> {
+        d.says(25, "## Promise 25: day `int day(int z, int n, int what)`: A DAY: BUTTER (what = 0), TALES"
+                + " (1). BAD.", due -> {
             // By k = 1 of five 0 and 3 are drawn, who are no FRIENDS; of three 1 and 0 are.
             ChurnTalk x = Due.laid("p0;p0;p0;f0,1;t2,9,2,0;t2,5,1,1;");
             answers(due, x, (y, what) -> y.day(0, 2, what), 5, 3);

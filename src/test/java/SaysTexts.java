@@ -244,6 +244,8 @@ final class SaysTexts {
             fault(due, two + "t0,1,1,11;", 6);
             fault(due, two + "t0,1,1,10;", 6);
             fault(due, two + "t1,1,1,1;", 6);
+            fault(due, two + "t1,1,1,00;", 6);
+            fault(due, two + "t1,1,1,2;", 6);
         });
         d.says(7, "9 at most, 0, 1, ..", due -> {
             fault(due, two + "t0,1,1,1;".repeat(9), NONE);
